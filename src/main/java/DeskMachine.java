@@ -811,12 +811,12 @@ public final class DeskMachine {
         }
 
         private boolean matches(int entry, int[] name, boolean anyMark) {
-            if (isFree(entry)) {
+            int start = (entry & (ENTRIES - 1)) * BLOCK_SIZE;
+            if (bytes[start] == FREE) {
                 return false;
             }
-            int start = (entry & (ENTRIES - 1)) * BLOCK_SIZE + NAME_AT;
             for (int i = 0; i < NAME_LENGTH; i++) {
-                if (name[i] != bytes[start + i] && !(anyMark && name[i] == ANY)) {
+                if (name[i] != bytes[start + NAME_AT + i] && !(anyMark && name[i] == ANY)) {
                     return false;
                 }
             }

@@ -24,6 +24,8 @@ public final class CommandTest {
         Trial.due("small letters are no command", Trial.type(x, "list"), REFUSED);
         Trial.due("a longer word is no command", Trial.type(x, "LISTS"), REFUSED);
         Trial.due("a shorter word is no command", Trial.type(x, "LIS"), REFUSED);
+        Trial.due("another first letter is no command", Trial.type(x, "MIST"), REFUSED);
+        Trial.due("another last letter is no command", Trial.type(x, "LISP"), REFUSED);
         Trial.due("spaces around", Trial.type(x, "   LIST   "), DONE);
         Trial.due("further words", Trial.type(x, "LIST A B C D"), DONE);
         Trial.due("keys that are lost", Trial.type(x, "\tLI\bS" + (char) 127 + "T\n"), DONE);
@@ -65,6 +67,8 @@ public final class CommandTest {
         Trial.due("all", Trial.type(x, "SHOW T X"), "0123456789abcdefghij$klmnopqrstu" + DONE);
         x.burn(2, 5, 1);
         Trial.due("one record", Trial.type(x, "SHOW T"), "0123456789abcdef" + DONE);
+        x.burn(2, 5, 2);
+        Trial.due("two records", Trial.type(x, "SHOW T"), "0123456789abcdef" + DONE);
         x.burn(9, 0, 26);
         x.burn(2, 5, 3);
         Trial.due("26 ends all records", Trial.type(x, "SHOW T"), DONE);
@@ -176,20 +180,22 @@ public final class CommandTest {
 
     private static void load() {
         DeskMachine x = new DeskMachine();
-        // MVI A 255, INR A, LXI B, LXI D, LXI H, CALL 26, HALT
-        Trial.pokes(x, 256, 62, 255, 60, 17, 9, 0, 33, 7, 0, 14, 26, 205, 5, 0, 55, 118);
-        Trial.due("save", Trial.type(x, "SAVE 1 PROG"), DONE);
+        // MVI A 255, INR A, LXI H, LXI D, LXI B with C 26, XCHG, CALL 5, STC, HALT
+        Trial.pokes(x, 256, 62, 255, 60, 33, 9, 8, 17, 7, 6, 1, 26, 5, 235, 205, 5, 0, 55, 118);
+        Trial.due("save", Trial.type(x, "SAVE 2 PROG"), DONE);
         Trial.due("a run shows 13 alone", Trial.type(x, "PROGRAM x y z"), "\r");
         Trial.due("it runs", x.about(0), 1);
         Trial.due("PC", x.register(9), 256);
         Trial.due("SP", x.register(8), 494);
         x.run(100);
-        Trial.due("the processor stays: E", x.register(3), 9);
-        Trial.due("L", x.register(5), 7);
+        int[] left = {5, 26, 8, 9, 6, 7};
+        for (int r = 0; r < 6; r++) {
+            Trial.due("the processor stays: " + r, x.register(r), left[r]);
+        }
         Trial.due("flags", x.register(6), 64 + 16 + 4 + 2 + 1);
-        Trial.due("BUFFER", x.register(10), 9);
-        Trial.due("PC behind the halt", x.register(9), 272);
-        Trial.pokes(x, 256, new int[16]);
+        Trial.due("BUFFER", x.register(10), 8 * 256 + 9);
+        Trial.due("PC behind the halt", x.register(9), 274);
+        Trial.pokes(x, 256, new int[32]);
         Trial.pokes(x, 494, 7, 7);
         Trial.type(x, "PROG");
         int[] want = {0, 0, 0, 0, 0, 0, 2, 0, 494, 256, 128};
@@ -198,7 +204,7 @@ public final class CommandTest {
         }
         Trial.due("0 is pushed", x.peek(494) + x.peek(495), 0);
         Trial.due("loaded", x.peek(256), 62);
-        Trial.due("loaded", x.peek(271), 118);
+        Trial.due("loaded", x.peek(273), 118);
 
         DeskMachine y = new DeskMachine();
         Trial.entry(y, 0, "LIST");

@@ -7,6 +7,7 @@ public final class InstructionTest {
         turns();
         growAndFall();
         moves();
+        carryIsUsed();
         pairs();
         addressed();
         nothings();
@@ -167,6 +168,19 @@ public final class InstructionTest {
                 Trial.due(what + "flags", x.register(6), 2);
                 Trial.due(what + "PC", x.register(9), 271);
             }
+        }
+    }
+
+    /** What an instruction leaves in Y is what the next ones take from it. */
+    private static void carryIsUsed() {
+        int[][] codes = {{55, 63, 0}, {63, 0, 0}, {55, 0, 0}, {214, 1, 0}, {214, 0, 0}, {55, 222, 0}, {198, 1, 0},
+            {55, 230, 255}, {55, 238, 0}, {55, 246, 0}, {62, 128, 7}, {62, 1, 15}, {62, 128, 23}, {62, 1, 31}};
+        int[] want = {0, 1, 1, 1, 0, 1, 0, 0, 0, 0, 1, 1, 1, 1};
+        for (int i = 0; i < codes.length; i++) {
+            // behind it MVI A 0, RAL, HALT
+            DeskMachine x = Trial.begun(codes[i][0], codes[i][1], codes[i][2], 62, 0, 23, 118);
+            x.run(100);
+            Trial.due("Y behind row " + i, x.register(7), want[i]);
         }
     }
 

@@ -15,6 +15,7 @@ public final class SystemCallTest {
         readOverFileBlock();
         write();
         writeFindsBlocks();
+        writeCountsTenRecordsOfItsOwn();
         writeRefuses();
         writeOverFileBlock();
         make();
@@ -280,8 +281,11 @@ public final class SystemCallTest {
         Trial.due("last byte", x.disk(8, 15), 85);
         Trial.due("not more", x.disk(9, 0), 0);
         Trial.due("the directory stays", x.disk(0, 0), 229);
+        x.poke(128, 71);
         Trial.due("write", Trial.call(x, 21, FCB), 0);
         Trial.due("block 9, since 8 is among its records", x.peek(FCB + 7), 9);
+        Trial.due("its byte", x.disk(9, 0), 71);
+        Trial.due("record 0 stays", x.disk(8, 0), 70);
         x.poke(FCB + 16, 0);
         x.poke(128, 1);
         Trial.due("write over record 0", Trial.call(x, 21, FCB), 0);
@@ -314,7 +318,7 @@ public final class SystemCallTest {
         Trial.entry(x, 2, "FREE", 12);
         x.burn(2, 0, 229);
         Trial.fileBlock(x, FCB, "ANY ");
-        Trial.pokes(x, FCB + 5, 1, 11, 13);
+        Trial.pokes(x, FCB + 5, 1, 11, 12);
         x.poke(FCB + 16, 1);
         Trial.due("write", Trial.call(x, 21, FCB), 0);
         Trial.due("neither used nor its own", x.peek(FCB + 7), 12);
@@ -331,6 +335,14 @@ public final class SystemCallTest {
         Trial.due("write", Trial.call(x, 21, FCB), 0);
         Trial.due("behind its own", x.peek(FCB + 7), 19);
         Trial.due("byte 5 stays", x.peek(FCB + 5), 200);
+    }
+
+    private static void writeCountsTenRecordsOfItsOwn() {
+        DeskMachine x = machine();
+        Trial.fileBlock(x, FCB, "ANY ");
+        Trial.pokes(x, FCB + 5, 255, 20, 21, 22, 23, 24, 25, 26, 27, 0, 28, 8);
+        Trial.due("write", Trial.call(x, 21, FCB), 0);
+        Trial.due("NEXT itself is no record", x.peek(FCB + 14), 8);
     }
 
     private static void writeRefuses() {
