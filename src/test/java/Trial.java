@@ -1,16 +1,32 @@
+import java.util.function.Consumer;
+import java.util.function.Supplier;
+
 /** What the tests share: the count of wrong answers, and hands to type and to write programs with. */
 final class Trial {
+    /** In how many parts everything that can be seen is looked at, none of them near 512 calls. */
+    private static final int PARTS = 8;
+
     private static int checks = 0;
     private static int wrong = 0;
+    private static String sentence = "";
 
     private Trial() {
+    }
+
+    /** What follows is due by these words of the document; they are printed with what is wrong. */
+    static void sentence(String words) {
+        sentence = "[" + words + "] ";
+    }
+
+    private static void tell(String what) {
+        wrong++;
+        System.out.println(sentence + what);
     }
 
     static void due(String what, long got, long want) {
         checks++;
         if (got != want) {
-            wrong++;
-            System.out.println(what + " answered " + got + ", due is " + want);
+            tell(what + " answered " + got + ", due is " + want);
         }
     }
 
@@ -21,8 +37,7 @@ final class Trial {
     static void due(String what, String got, String want) {
         checks++;
         if (!got.equals(want)) {
-            wrong++;
-            System.out.println(what + " answered " + readable(got) + ", due is " + readable(want));
+            tell(what + " answered " + readable(got) + ", due is " + readable(want));
         }
     }
 
@@ -36,13 +51,56 @@ final class Trial {
             got = e.getClass();
         }
         if (got != want) {
-            wrong++;
-            System.out.println(what + " threw " + got + ", due is " + want);
+            tell(what + " threw " + got + ", due is " + want);
         }
     }
 
     static void refused(String what, Runnable call) {
         throwsDue(what, call, IllegalArgumentException.class);
+    }
+
+    /** The call throws, and leaves everything that can be seen as it was. */
+    static void refusedWhole(String what, Supplier<DeskMachine> making, Consumer<DeskMachine> call, Class<?> want) {
+        for (int part = 0; part < PARTS; part++) {
+            DeskMachine x = making.get();
+            throwsDue(what, () -> call.accept(x), want);
+            due(what + " changes nothing", seen(x, part), seen(making.get(), part));
+        }
+    }
+
+    /** The same number of machines each time: one object is good for 512 calls only. */
+    private static String seen(DeskMachine x, int part) {
+        StringBuilder b = new StringBuilder();
+        for (int i = 0; i < 512 / PARTS; i++) {
+            int at = part * (512 / PARTS) + i;
+            b.append(x.peek(at)).append(' ').append(x.disk(at / 16, at % 16)).append(' ');
+        }
+        for (int i = 0; i < 64; i++) {
+            b.append(x.shown(i)).append(' ');
+        }
+        for (int r = 0; r <= 10; r++) {
+            b.append(x.register(r)).append(' ');
+        }
+        for (int what = 0; what <= 4; what++) {
+            b.append(x.about(what)).append(' ');
+        }
+        return b.toString();
+    }
+
+    /** System call c with de answers want in A, and no byte of the disk or of memory below 256 changes. */
+    static void callChangesNothing(String what, Supplier<DeskMachine> making, int c, int de, int want) {
+        for (int from = 0; from < 256; from += 128) {
+            DeskMachine x = making.get();
+            String before = memory(x, from, 128);
+            due(what, call(x, c, de), want);
+            due(what + ": memory", memory(x, from, 128), before);
+        }
+        for (int from = 0; from < 32; from += 8) {
+            DeskMachine x = making.get();
+            String before = blocks(x, from, 8);
+            call(x, c, de);
+            due(what + ": disk", blocks(x, from, 8), before);
+        }
     }
 
     static void end() {
@@ -164,6 +222,14 @@ final class Trial {
         StringBuilder s = new StringBuilder();
         for (int i = 0; i < count; i++) {
             s.append((char) x.disk(b, from + i));
+        }
+        return s.toString();
+    }
+
+    static String blocks(DeskMachine x, int from, int count) {
+        StringBuilder s = new StringBuilder();
+        for (int b = from; b < from + count; b++) {
+            s.append(block(x, b, 0, 16));
         }
         return s.toString();
     }
