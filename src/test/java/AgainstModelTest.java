@@ -1,6 +1,9 @@
 import java.util.Random;
 
-/** Long random runs of calls, compared with the model in everything that can be seen. */
+/**
+ * Long random runs of calls, compared with the model in everything that can be seen. That takes far more than
+ * the 512 calls for which answers are promised: this class makes no difference behind them.
+ */
 public final class AgainstModelTest {
     private static final String[] NAMES = {"A", "B", "AB", "A?", "?", "????", "LONGER", "LONG", "C", "Z9"};
     private static final int[] CALLS = {1, 2, 9, 11, 15, 15, 16, 17, 18, 18, 19, 20, 20, 21, 21, 21, 22, 22, 23, 26, 3, 0};

@@ -500,9 +500,10 @@ public final class BoundaryCommandTest {
 
     private static void loadProcessor() {
         Trial.sentence("SP is 496 and 0 is pushed, all else in the processor 0, PC 256, BUFFER 128; the machine RUNS.");
-        // LXI B, LXI D, LXI H, LXI SP, XRA A with Z and P, MVI A, call 26, and the halt
-        DeskMachine x = Trial.begun(1, 26, 9, 17, 8, 7, 33, 6, 5, 49, 100, 0, 175, 62, 4, 205, 5, 0, 118);
+        // LXI B, LXI D, LXI H, LXI SP, XRA A with Z and P, call 26, MVI A, and the halt
+        DeskMachine x = Trial.begun(1, 26, 9, 17, 8, 7, 33, 6, 5, 49, 100, 0, 175, 205, 5, 0, 62, 4, 118);
         x.run(1000);
+        Trial.due("A before", x.register(7), 4);
         Trial.due("BUFFER before", x.register(10), 7 * 256 + 8);
         Trial.due("flags before", x.register(6), 70);
         Trial.due("SP before", x.register(8), 100);
@@ -545,7 +546,8 @@ public final class BoundaryCommandTest {
             Trial.due(word + "S is another word", Trial.type(x, word + "S"), "\r");
             String less = word.substring(0, 3);
             String small = word.toLowerCase();
-            for (String other : new String[] {less, small, "X" + less, word.substring(1), word + "1"}) {
+            String[] others = {less, small, "X" + less, "X" + word.substring(1), less + "X", word.substring(1), word + "1"};
+            for (String other : others) {
                 DeskMachine y = new DeskMachine();
                 Trial.entry(y, 0, "1   ");
                 Trial.due(other + " is no command", Trial.type(y, other + " 1 1"), REFUSED);

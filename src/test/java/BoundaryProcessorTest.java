@@ -13,6 +13,7 @@ public final class BoundaryProcessorTest {
         addressesOfInstructions();
         wordsAreKept();
         pushAndPop();
+        pushOfA();
         pairsGoRound();
         registersGoRound();
         countingKeepsY();
@@ -21,6 +22,7 @@ public final class BoundaryProcessorTest {
         growAndFall();
         sumOfPairs();
         turns();
+        turnedY();
         adjustLow();
         adjustHigh();
         plus();
@@ -31,6 +33,7 @@ public final class BoundaryProcessorTest {
         conditions();
         skips();
         exchange();
+        calls();
         halt();
         toZero();
         toFive();
@@ -145,6 +148,19 @@ public final class BoundaryProcessorTest {
         y.run(1);
         Trial.due("a pop from 0: SP", y.register(8), 2);
         Trial.due("BC", pair(y, 0), 4 * 256 + 3);
+    }
+
+    private static void pushOfA() {
+        Trial.sentence("y even: pair y / 2 (6: A and the flags) is pushed");
+        for (int a : new int[] {0, 1, 128, 255}) {
+            // MVI A, STC, PUSH A and flags, POP B
+            DeskMachine x = Trial.begun(62, a, 55, 245, 193);
+            x.run(3);
+            Trial.due("low: the flags", x.peek(492), ONE + Y);
+            Trial.due("high: A", x.peek(493), a);
+            x.run(1);
+            Trial.due("popped", pair(x, 0), 256 * a + ONE + Y);
+        }
     }
 
     private static void pairsGoRound() {
@@ -294,6 +310,23 @@ public final class BoundaryProcessorTest {
         due("Y = 1 of 1", after(9, 0, rest + Y, 55, 0), 9, rest + Y);
         due("1 - 0", after(9, 0, rest, 63, 0), 9, rest + Y);
         due("1 - 1", after(9, 0, rest + Y, 63, 0), 9, rest);
+    }
+
+    private static void turnedY() {
+        Trial.sentence("Y = 1; Y = 1 - Y.");
+        // STC, CMC as often as it says, then MVI A 0 and left through Y
+        for (int times = 0; times <= 3; times++) {
+            DeskMachine x = Trial.begun(55, times > 0 ? 63 : 0, times > 1 ? 63 : 0, times > 2 ? 63 : 0, 62, 0, 23);
+            x.run(6);
+            due("Y turned " + times + " times", x, 1 - times % 2, ONE);
+        }
+        Trial.sentence("Y is 1 less the carry.");
+        DeskMachine less = Trial.begun(214, 1, 62, 0, 23);
+        less.run(3);
+        due("Y of 0 - 1", less, 1, S + P + ONE);
+        DeskMachine same = Trial.begun(214, 0, 62, 0, 23);
+        same.run(3);
+        due("Y of 0 - 0", same, 0, Z + K + P + ONE);
     }
 
     private static void adjustLow() {
@@ -449,13 +482,33 @@ public final class BoundaryProcessorTest {
             Trial.due("high", x.peek(0), 18);
             Trial.due("SP stays", x.register(8), sp);
         }
-        Trial.sentence("HL = word at w");
+        Trial.sentence("a POP takes one and raises it");
         DeskMachine y = Trial.begun(33, 52, 18, 227, 225, 229);
         Trial.pokes(y, 494, 1, 2);
         y.run(3);
         Trial.due("what changed places is popped again", pair(y, 2), 18 * 256 + 52);
         y.run(1);
         Trial.due("and pushed", y.peek(494) + 256 * y.peek(495), 18 * 256 + 52);
+        Trial.sentence("5: DE and HL do");
+        DeskMachine z = Trial.begun(17, 255, 255, 33, 52, 18, 235);
+        z.run(3);
+        Trial.due("DE", pair(z, 1), 18 * 256 + 52);
+        Trial.due("HL", pair(z, 2), 65535);
+    }
+
+    private static void calls() {
+        Trial.sentence("z 7: call 8 * y.");
+        for (int y = 0; y < 8; y++) {
+            DeskMachine x = Trial.begun(199 + 8 * y);
+            x.run(1);
+            Trial.due("PC of y " + y, x.register(9), 8 * y);
+            Trial.due("pushed", x.peek(492) + 256 * x.peek(493), 257);
+            Trial.due("at the desk with y 0 alone", x.about(0), y == 0 ? 0 : 1);
+        }
+        Trial.sentence("7: SP = HL.");
+        DeskMachine z = Trial.begun(33, 255, 255, 249);
+        z.run(2);
+        Trial.due("SP", z.register(8), 65535);
     }
 
     private static void halt() {

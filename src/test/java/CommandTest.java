@@ -120,8 +120,9 @@ public final class CommandTest {
 
     private static void save() {
         DeskMachine x = new DeskMachine();
-        for (int a = 0; a < 512; a++) {
-            x.poke(a, (a * 3 + a / 256) & 255);
+        for (int i = 0; i < 10; i++) {
+            x.poke(256 + 16 * i, 30 + i);
+            x.poke(271 + 16 * i, 60 + i);
         }
         Trial.burns(x, 0, 5, 9, 9, 9, 9);
         Trial.due("none", Trial.type(x, "SAVE 0 Z"), DONE);
@@ -130,7 +131,8 @@ public final class CommandTest {
         Trial.due("its entry", Trial.block(x, 1, 0, 16),
                 Trial.bytes(0) + "NINE" + Trial.bytes(9, 8, 9, 10, 11, 12, 13, 14, 15, 16, 0));
         for (int i = 0; i < 9; i++) {
-            Trial.due("record " + i, Trial.block(x, 8 + i, 0, 16), Trial.memory(x, 256 + 16 * i, 16));
+            Trial.due("record " + i, Trial.block(x, 8 + i, 0, 16),
+                    Trial.bytes(30 + i) + Trial.bytes(new int[14]) + Trial.bytes(60 + i));
         }
         Trial.due("not more", x.disk(17, 0), 0);
         Trial.due("again, fewer", Trial.type(x, "SAVE 2 NINE"), DONE);

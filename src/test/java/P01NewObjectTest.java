@@ -1,15 +1,18 @@
 /** Promise 1: all bytes 0, the entries free, at the desk, nothing shown. */
 public final class P01NewObjectTest {
     public static void main(String[] args) {
-        DeskMachine x = new DeskMachine();
+        // An object each: one is good for 512 calls.
+        DeskMachine memory = new DeskMachine();
         for (int a = 0; a < 512; a++) {
-            Trial.due("peek(" + a + ")", x.peek(a), 0);
+            Trial.due("peek(" + a + ")", memory.peek(a), 0);
         }
+        DeskMachine disk = new DeskMachine();
         for (int b = 0; b < 32; b++) {
             for (int i = 0; i < 16; i++) {
-                Trial.due("disk(" + b + ", " + i + ")", x.disk(b, i), b < 8 && i == 0 ? 229 : 0);
+                Trial.due("disk(" + b + ", " + i + ")", disk.disk(b, i), b < 8 && i == 0 ? 229 : 0);
             }
         }
+        DeskMachine x = new DeskMachine();
         for (int r = 0; r <= 10; r++) {
             Trial.due("register(" + r + ")", x.register(r), r == 6 ? 2 : r == 10 ? 128 : 0);
         }

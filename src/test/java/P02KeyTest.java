@@ -45,7 +45,7 @@ public final class P02KeyTest {
     private static void ring() {
         DeskMachine x = Trial.begun(14, 1, 205, 5, 0, 195, 0, 1);
         int taken = 0;
-        for (int k = 0; k < 200; k++) {
+        for (int k = 0; k < 110; k++) {
             x.key(k);
             if (k % 3 == 2) {
                 for (int i = 0; i < 3; i++) {
