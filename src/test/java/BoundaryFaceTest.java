@@ -226,8 +226,9 @@ public final class BoundaryFaceTest {
         DeskMachine z = Trial.begun(14, 1, 205, 5, 0, 118);
         z.run(9);
         Trial.due("run(1) without a key", z.run(1), 0);
-        Trial.due("run(1000) without a key", z.run(1000), 0);
         Trial.due("it waits still", z.about(0), 2);
+        Trial.due("run(1000) without a key", z.run(1000), 0);
+        Trial.due("and still", z.about(0), 2);
         Trial.due("steps in all", z.about(3), 5);
         // JMP 5 instead of a call: what is popped is the 0 of the start.
         DeskMachine w = Trial.begun(14, 1, 195, 5, 0);
